@@ -42,11 +42,11 @@ public final class PutBack {
     private final int[] course;
 
     public PutBack() {
-        now = new State();
+        maker = new Maker();
+        now = maker.state;
         kept = new State();
         isKept = false;
         reader = new Reader();
-        maker = new Maker(now);
         acts = new Acts();
         ways = new int[LIST_MOST];
         course = new int[LIST_MOST + 2];
@@ -460,11 +460,11 @@ public final class PutBack {
 
     public int twins() {
         int best = NOTHING;
-        int least = Integer.MAX_VALUE;
+        int least = 0;
         for (int i = 0; i < now.list.size; i++) {
             for (int j = i + 1; j < now.list.size; j++) {
                 int far = maker.plainFar(now.list.words[i], j);
-                if (far < least) {
+                if (best == NOTHING || far < least) {
                     least = far;
                     best = 10 * i + j;
                 }
@@ -716,7 +716,7 @@ public final class PutBack {
 
     /** 4 apart is above; 1 apart is beside, but for 4 and 5, which end one row and begin the other. */
     private static boolean isNear(int a, int b) {
-        int apart = Math.abs(a - b);
+        int apart = a < b ? b - a : a - b;
         return apart == 4 || apart == 1 && a + b != 9;
     }
 
@@ -1090,79 +1090,74 @@ public final class PutBack {
         }
 
         private boolean readClause() {
-            switch (peek()) {
-                case 'l': {
-                    int n = readName("limit") ? readNumber() : -1;
-                    phone.limit = n;
-                    return n >= 0;
-                }
-                case 's': {
-                    int n = readName("step") ? readNumber() : -1;
-                    phone.step = n;
-                    return n >= 0;
-                }
-                case 'd':
-                    return readName("dear") && readAmount(1);
-                case 'f':
-                    return readName("free") && readAmount(-1);
-                default:
-                    return false;
-            }
-        }
-
-        private boolean readAmount(int factor) {
-            int n = readNumber();
-            if (n < 0 || !readSign(' ') || !readEither(0)) {
+            int first = peek();
+            int n = readName(nameBy(first)) ? readNumber() : -1;
+            if (n < 0) {
                 return false;
             }
-            phone.close(factor * n);
+            if (first == 'l') {
+                phone.limit = n;
+                return true;
+            }
+            if (first == 's') {
+                phone.step = n;
+                return true;
+            }
+            if (!readSign(' ') || !readEither(0)) {
+                return false;
+            }
+            phone.close(first == 'd' ? n : -n);
             return true;
+        }
+
+        /** Any name will do for a sign with which none begins: reading it fails at once. */
+        private static String nameBy(int first) {
+            switch (first) {
+                case 'l':
+                    return "limit";
+                case 's':
+                    return "step";
+                case 'd':
+                    return "dear";
+                default:
+                    return "free";
+            }
         }
 
         /** One digit, or two of which the first is not 0; -1 if there is none. */
         private int readNumber() {
-            int first = readDigit();
-            if (first <= 0) {
-                return first;
-            }
-            int second = readDigit();
-            return second < 0 ? first : first * 10 + second;
-        }
-
-        private int readDigit() {
-            int sign = peek();
-            if (sign < '0' || sign > '9') {
+            int first = peek() - '0';
+            if (first < 0 || first > 9) {
                 return -1;
             }
             place++;
-            return sign - '0';
+            int second = peek() - '0';
+            if (first == 0 || second < 0 || second > 9) {
+                return first;
+            }
+            place++;
+            return first * 10 + second;
         }
 
         /** E, with so many of ! and ( open around it. */
         private boolean readEither(int open) {
-            if (!readBoth(open)) {
-                return false;
-            }
-            for (int n = 0; n < TAPE_MOST && readSign('|'); n++) {
-                if (!readBoth(open)) {
-                    return false;
+            for (int ors = 0; ors < TAPE_MOST; ors++) {
+                for (int ands = 0; ands == 0 || ands < TAPE_MOST && readSign('&'); ands++) {
+                    if (!readFactor(open)) {
+                        return false;
+                    }
+                    if (ands > 0) {
+                        phone.put(Phone.AND);
+                    }
                 }
-                phone.put(Phone.OR);
-            }
-            return true;
-        }
-
-        private boolean readBoth(int open) {
-            if (!readFactor(open)) {
-                return false;
-            }
-            for (int n = 0; n < TAPE_MOST && readSign('&'); n++) {
-                if (!readFactor(open)) {
-                    return false;
+                if (ors > 0) {
+                    phone.put(Phone.OR);
                 }
-                phone.put(Phone.AND);
+                if (!readSign('|')) {
+                    return true;
+                }
             }
-            return true;
+            return false;
         }
 
         private boolean readFactor(int open) {
@@ -1213,19 +1208,15 @@ public final class PutBack {
 
     /** What MENDERS make, on a course of its own (WEIGHTS, TYPED, the last that stands) that begins as things are. */
     private static final class Maker {
+        final State state = new State();
         final int[] weights = new int[LIST_MOST];
         int typed = 0;
         /** The number in THE LIST of the last WORD that stands; -1 if that is not of it, or none stands. */
         int last = -1;
-        private final State state;
         private final int[] letters = new int[LETTERS_MOST];
         private int size = 0;
         private final int[] sums = new int[LETTERS_MOST + 1];
         private final int[] facts = new int[Phone.FACTS];
-
-        Maker(State of) {
-            state = of;
-        }
 
         void settle() {
             copyInts(state.list.weights, weights);
@@ -1365,19 +1356,14 @@ public final class PutBack {
                 int corner = sums[0];
                 sums[0] = (k + 1) * step;
                 for (int j = 1; j <= goal; j++) {
-                    int swapped = corner + swap(letters[k], state.list.letters[i * LETTERS_MOST + j - 1], near);
+                    int other = state.list.letters[i * LETTERS_MOST + j - 1];
+                    int swap = isNear(letters[k], other) ? near : step;
+                    int swapped = corner + (letters[k] == other ? 0 : swap);
                     corner = sums[j];
                     sums[j] = Math.min(swapped, Math.min(sums[j], sums[j - 1]) + step);
                 }
             }
-            return sums[Math.max(0, goal)];
-        }
-
-        private int swap(int letter, int other, int near) {
-            if (letter == other) {
-                return 0;
-            }
-            return isNear(letter, other) ? near : state.phone.step;
+            return goal < 0 ? 0 : sums[goal];
         }
     }
 

@@ -69,9 +69,9 @@ public final class PromisesTest {
         promise = 3;
         Object[] faults = {
             "", 0, "x", 0, ";limit 5", 0, "Limit 5", 0, "limit", 5, "limit ", 6, "lemit 5", 1, "limit  5", 6,
-            "limit 00", 7, "limit 123", 8, "limit 5 ", 7, "limit 5;", 8, "limit 5;;", 8, "step5", 4, "step 1", -1,
+            "limit 00", 7, "limit :", 6, "limit /", 6, "limit 1:", 7, "limit 1/", 7, "limit 123", 8, "limit 5 ", 7, "limit 5;", 8, "limit 5;;", 8, "step5", 4, "step 1", -1,
             "dear 5", 6, "dear 5;", 6, "dear 5 ", 7, "dear 5  t=1", 7, "dear 5 t", 8, "dear 5 t=", 9, "dear 5 t-1", 8,
-            "dear 5 x=1", 7, "dear 5 t=01", 10, "dear 5 t=123", 11, "dear 5 t=1&", 11, "dear 5 t=1&&", 11,
+            "dear 5 x=1", 7, "dear 5 t=01", 10, "dear 5 t=:", 9, "dear 5 t=1:", 10, "dear 5 t=123", 11, "dear 5 t=1&", 11, "dear 5 t=1&&", 11,
             "dear 5 t=1|", 11, "dear 5 t=1 ", 10, "dear 5 (t=1", 11, "dear 5 t=1)", 10, "dear 5 ()", 8,
             "dear 5 (t=1)!", 12, "dear 5 !", 8, "dear 5 (t=1;step 2", 11, "dear 5 (t=1)2", 12, "free 5 !!!!!!t=1", 12,
             "free 5 ((((((t=1", 12, "free 5 !(!(!(t=1", 12, "free 5 (((((t=1))))))", 20, "free 05 t=1", 6,
@@ -381,6 +381,27 @@ public final class PromisesTest {
         read(x, "dear 1 t=1|t=2&t=3;dear 2 (t=1|t=2)&t=3;dear 4 !t=1&t=3;dear 8 !(t=1&t=3)");
         due("and binds before or, not before and", x.cost(1, 7, 1, 0), 1 + 8);
         due("and so on", x.cost(1, 777, 1, 0), 20 + 4 + 8);
+    }
+
+    /** Of words of two letters (t=2, w=1): what holds, what does not. */
+    private static void costsOfBrackets() {
+        String[] holding = {"t=2&(w=1)", "(t=2)&w=1", "t=2&(w=1|t=3)", "t=3|(w=1)", "(t=3|w=1)&t=2", "t=3|t=2&(w=1&(t=2|w=9))",
+            "!(t=2&(w=2))", "!(t=3|(w=2))", "!!(t=2)", "!t=3&!(w=2)&t=2", "t=3&t=3|t=2", "t=2|t=3&t=3", "(((t=2)))|w=9",
+            "t=2&(t=2&(t=2&(t=2&(t=2&w=1))))", "t=3|(t=3|(t=3|(t=3|(t=3|w=1))))", "!(t=3|!(t=2&!w=2))"};
+        for (String e : holding) {
+            PutBack y = withWords(7, 0);
+            y.mender(0, 0);
+            read(y, "dear 30 " + e + ";dear 1 t=2");
+            due("holds: " + e, y.cost(0, 77, 0, 0), 41);
+        }
+        String[] others = {"t=2&(w=2)", "(t=3)&w=1", "t=3&(w=1|t=3)", "t=3|(w=2)", "(t=3|w=1)&t=3", "!(t=2&(w=1))", "!(t=3|(w=1))",
+            "!!!(t=2)", "!t=3&!(w=1)", "t=3&t=2|t=3", "t=2&(t=2&(t=2&(t=2&(t=2&w=2))))", "!(t=2|t=3&t=3)", "!t=2|t=3"};
+        for (String e : others) {
+            PutBack y = withWords(7, 0);
+            y.mender(0, 0);
+            read(y, "dear 30 " + e + ";dear 1 t=2");
+            due("does not hold: " + e, y.cost(0, 77, 0, 0), 11);
+        }
     }
 
     private static void costsOfManyClauses() {
@@ -983,6 +1004,7 @@ public final class PromisesTest {
         costs();
         costsOfOtherKinds();
         costsOfClauses();
+        costsOfBrackets();
         costsOfManyClauses();
         staying();
         touchesOfTwoLetters();
